@@ -53,7 +53,7 @@ public final class FanTest {
         Check.due("15: a column", Fans.of(7, 3, 0, 3, 1, 3, 5).coneCount(), 1);
         Check.due("15: two cones", antidiagonal().coneCount(), 2);
         Check.due("16, 17: two cones", walls(antidiagonal()), "1/1 -5/-5");
-        // x = y^4 over GF(17): 4 is not reduced by y^2, so the wall is 1/4.
+        // x = y^4 at five points over GF(17)
         Check.due("17: x = y^4", Fans.of(17, 0, 0, 1, 1, 16, 2, 13, 3, 1, 4).wallDenominator(0), 4);
         for (int cone : FAR) {
             Check.due("16: cone " + cone, fan.wallNumerator(cone), NO);
@@ -71,7 +71,7 @@ public final class FanTest {
                 Check.due("16, 17: lowest terms", top % d == 0 && bottom % d == 0 ? 1 : 0, 0);
             }
         }
-        // Only x^2 and y^2 meet here: the ideal of the four points (+-1, +-1) turned by swaps.
+        // Four points of x^2 + y^2 = 1 and xy = 0: x^2 and y^2 make the fraction 2/2.
         GroebnerFan circle = Fans.of(5, 0, 1, 0, 4, 1, 0, 4, 0);
         Check.due("16, 17: 2/2 is 1/1", walls(circle), "1/1 -5/-5");
         Check.due("15: x^2 + y^2 = 1", bases(circle), "1y3+4y1 1x1y1 1x2+1y2+4"
@@ -183,7 +183,7 @@ public final class FanTest {
         Check.due("25: x - y and y - x are two", Fans.of(7, 0, 0, 1, 1).universalSize(), 4);
         Check.due("25: x + y over GF(2)", Fans.of(2, 0, 0, 1, 1).universalSize(), 3);
         Check.due("26: degree 2", antidiagonal().universalDegree(), 2);
-        // The greatest degree stands beside a corner: x + 6 y^2 and y^3 + .., of degree 3, and x^8.
+        // y + 22 and x^8 + ..
         GroebnerFan row = Fans.of(31, 0, 9, 1, 9, 2, 9, 3, 9, 4, 9, 5, 9, 6, 9, 30, 9);
         Check.due("25: a row", row.universalSize(), 2);
         Check.due("26: a row", row.universalDegree(), 8);
@@ -211,6 +211,65 @@ public final class FanTest {
         Check.due("28: the first of equals", antidiagonal().flattestCone(), 0);
         Check.due("28: without points", new GroebnerFan().flattestCone(), 0);
         Check.due("28: one cone", Fans.of(7, 0, 0, 0, 1).flattestCone(), 0);
+    }
+
+    /** One row of numbers for each cone: wall, changed corners, mirrored cone. */
+    private static String cones(GroebnerFan fan) {
+        StringBuilder text = new StringBuilder();
+        for (int cone = 0; cone < fan.coneCount(); cone++) {
+            text.append(cone == 0 ? "" : ", ");
+            text.append(fan.wallNumerator(cone)).append('/').append(fan.wallDenominator(cone));
+            text.append(' ').append(fan.changedCorners(cone));
+            text.append(' ').append(fan.mirroredCone(cone));
+        }
+        return text.toString();
+    }
+
+    /** Points by lot; what is due was told by the model of ModelTest. */
+    private static void scatteredPoints() {
+        GroebnerFan fan = Fans.of(11, 0, 10, 0, 9, 1, 9, 3, 1, 2, 2, 1, 0);
+        Check.due("15 to 27: four cones", cones(fan),
+                "1/3 2 -5, 2/3 2 3, 3/2 3 2, -5/-5 -5 1");
+        Check.due("25: polynomials stay over walls", fan.universalSize(), 12);
+        Check.due("26: y^5", fan.universalDegree(), 5);
+        Check.due("28: degree 2", fan.flattestCone(), 2);
+        fan = Fans.of(5, 0, 3, 1, 3, 1, 1, 2, 1, 3, 0, 1, 0);
+        Check.due("15 to 27: y^3 stays a corner", cones(fan), "1/1 1 -5, -5/-5 -5 -5");
+        Check.due("23: bases", bases(fan), "1y3+1y2+3y1 1x2+1x1y1+1x1+4y1+3"
+                + " | 1y3+1y2+3y1 1x1y1+1x2+1x1+4y1+3 1x4+4x3+1x2+4x1");
+        Check.due("25: x^2 + xy + .. counts once", fan.universalSize(), 3);
+        fan = Fans.of(11, 1, 10, 1, 3, 0, 3, 1, 6, 2, 4);
+        Check.due("15 to 27: the last mirrors the last", cones(fan),
+                "1/2 2 -5, 1/1 2 -5, -5/-5 -5 2");
+        Check.due("28: degree 2", fan.flattestCone(), 1);
+        GroebnerFan column = Fans.of(7, 3, 0, 3, 1, 3, 2, 3, 3);
+        Check.due("26: y^4 in a column", column.universalDegree(), 4);
+    }
+
+    /** Every question that needs the fan, asked first. */
+    private static void askedFirst() {
+        Check.due("16: asked first", parabola().wallNumerator(0), 1);
+        Check.due("17: asked first", parabola().wallDenominator(0), 2);
+        Check.due("18: asked first", parabola().firstConeContaining(0, 1), 2);
+        Check.due("19: asked first", parabola().conesContaining(2, 1), 2);
+        Check.due("20: asked first", parabola().coneHeight(2, 2), 1);
+        Check.due("21: asked first", parabola().basisSize(1), 3);
+        Check.due("22: asked first", parabola().basisCorner(1, 1), 11);
+        Check.due("23: asked first", parabola().basisCoefficient(1, 1, 1, 0), 4);
+        Check.due("24: asked first", parabola().changedCorners(1), 3);
+        Check.due("25: asked first", parabola().universalSize(), 7);
+        Check.due("26: asked first", parabola().universalDegree(), 3);
+        Check.due("27: asked first", parabola().mirroredCone(0), 2);
+        Check.due("28: asked first", parabola().flattestCone(), 1);
+        Check.due("34: asked first", parabola().reduceToNormalForm(2), 0);
+        Check.due("36: asked first", parabola().loadBasisPolynomial(2, 1), 3);
+        Check.due("40: asked first", parabola().format(2, 1), 11);
+        GroebnerFan fan = parabola();
+        fan.newArray(0, 3);
+        Check.due("35: asked first", fan.interpolate(2, 0), 0);
+        fan = parabola();
+        fan.newArray(0, 0);
+        Check.due("48: asked first", fan.firstDifference(0, 2), NONE);
     }
 
     private static void questionsChangeNothing() {
@@ -253,6 +312,8 @@ public final class FanTest {
         universal();
         mirroredCone();
         flattestCone();
+        scatteredPoints();
+        askedFirst();
         questionsChangeNothing();
         Check.finish("FanTest");
     }
