@@ -173,7 +173,7 @@ public final class GroebnerFan {
     // ---- the fan
 
     public int coneCount() {
-        refreshFan();
+        fan.refresh(order, elimination);
         return fan.size;
     }
 
@@ -197,7 +197,7 @@ public final class GroebnerFan {
         if (!isWeight(u, v)) {
             return BAD_VALUE;
         }
-        refreshFan();
+        fan.refresh(order, elimination);
         return fan.firstWithin(u, v);
     }
 
@@ -205,7 +205,7 @@ public final class GroebnerFan {
         if (!isWeight(u, v)) {
             return BAD_VALUE;
         }
-        refreshFan();
+        fan.refresh(order, elimination);
         ReducedBasis first = fan.find(fan.firstWithin(u, v));
         return first != null && first.hasOnWall(u, v) ? 2 : 1;
     }
@@ -246,12 +246,12 @@ public final class GroebnerFan {
     }
 
     public int universalSize() {
-        refreshFan();
+        fan.refresh(order, elimination);
         return fan.countDistinctPolynomials();
     }
 
     public int universalDegree() {
-        refreshFan();
+        fan.refresh(order, elimination);
         return fan.greatestDegree();
     }
 
@@ -265,7 +265,7 @@ public final class GroebnerFan {
     }
 
     public int flattestCone() {
-        refreshFan();
+        fan.refresh(order, elimination);
         return fan.firstFlattest();
     }
 
@@ -554,15 +554,9 @@ public final class GroebnerFan {
         orderBasis.compute(order, elimination);
     }
 
-    private void refreshFan() {
-        if (fan.size == 0) {
-            fan.build(order, elimination);
-        }
-    }
-
     /** The basis of a cone, or null if there is no such cone. */
     private ReducedBasis findCone(int cone) {
-        refreshFan();
+        fan.refresh(order, elimination);
         return fan.find(cone);
     }
 
@@ -1112,7 +1106,10 @@ public final class GroebnerFan {
             return cone >= 0 && cone < size ? cones[cone] : null;
         }
 
-        void build(Order order, Elimination elimination) {
+        void refresh(Order order, Elimination elimination) {
+            if (size > 0) {
+                return;
+            }
             order.choose(1, 0, TIE_Y);
             for (int k = 0; k < MAX_CONES; k++) {
                 if (cones[k] == null) {

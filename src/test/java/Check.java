@@ -2,15 +2,21 @@
 final class Check {
     private static int passed = 0;
     private static int failed = 0;
+    private static String heading = "";
 
     private Check() {
+    }
+
+    /** The sentence of the document that the next checks are about. */
+    static void about(String sentence) {
+        heading = "\"" + sentence + "\" ";
     }
 
     static void due(String what, long got, long want) {
         if (got == want) {
             passed++;
         } else {
-            fail(what + " answered " + got + ", due is " + want);
+            fail(heading + what + " answered " + got + ", due is " + want);
         }
     }
 
@@ -18,7 +24,7 @@ final class Check {
         if (got.equals(want)) {
             passed++;
         } else {
-            fail(what + " answered \"" + got + "\", due is \"" + want + "\"");
+            fail(heading + what + " answered \"" + got + "\", due is \"" + want + "\"");
         }
     }
 

@@ -6,7 +6,9 @@ import java.nio.file.Files;
 import java.nio.file.Path;
 import java.util.ArrayList;
 import java.util.List;
+import java.util.Map;
 import java.util.Set;
+import java.util.TreeMap;
 import java.util.TreeSet;
 import java.util.regex.Matcher;
 import java.util.regex.Pattern;
@@ -85,12 +87,54 @@ public final class LanguageTest {
         }
     }
 
+    /** The bodies of all methods by their names; methods of one name count as one. */
+    private static Map<String, String> bodies(String code) {
+        Map<String, String> bodies = new TreeMap<>();
+        Matcher methods = Pattern.compile("(?m)^( {4,8})[\\w\\[\\] ]*?(\\w+)\\([\\w\\[\\], ]*\\) \\{$")
+                .matcher(code);
+        while (methods.find()) {
+            int end = code.indexOf("\n" + methods.group(1) + "}", methods.end());
+            bodies.merge(methods.group(2), code.substring(methods.end(), end), String::concat);
+        }
+        return bodies;
+    }
+
+    /** How many calls stand open at most when a method is called; 100 stands for a recursion. */
+    private static int depth(String method, Map<String, String> bodies, int open) {
+        int deepest = 0;
+        Matcher calls = Pattern.compile("\\b(\\w+)\\(").matcher(bodies.get(method));
+        while (calls.find() && open < 100) {
+            String called = calls.group(1);
+            if (bodies.containsKey(called)) {
+                deepest = Math.max(deepest, depth(called, bodies, open + 1));
+            }
+        }
+        return open >= 100 ? 100 : 1 + deepest;
+    }
+
+    private static void callDepths(String code) {
+        Map<String, String> bodies = bodies(code);
+        Check.due("11: all public methods are found",
+                bodies.keySet().containsAll(publicNames()) ? 1 : 0, 1);
+        for (String method : bodies.keySet()) {
+            int depth = depth(method, bodies, 0);
+            Check.due("8, 11: calls of " + method + " go " + depth + " deep", depth <= 8 ? 1 : 0, 1);
+        }
+    }
+
+    private static Set<String> publicNames() {
+        Set<String> names = new TreeSet<>();
+        for (Method method : GroebnerFan.class.getDeclaredMethods()) {
+            if (Modifier.isPublic(method.getModifiers())) {
+                names.add(method.getName());
+            }
+        }
+        return names;
+    }
+
     private static void members() {
         List<Class<?>> classes = new ArrayList<>(List.of(GroebnerFan.class.getDeclaredClasses()));
-        Set<String> publicNames = new TreeSet<>();
-        for (Method method : GroebnerFan.class.getMethods()) {
-            publicNames.add(method.getName());
-        }
+        Set<String> publicNames = publicNames();
         for (Class<?> inside : classes) {
             Check.due("2: " + inside.getSimpleName() + " is static",
                     Modifier.isStatic(inside.getModifiers()) ? 1 : 0, 1);
@@ -126,6 +170,7 @@ public final class LanguageTest {
         words(code);
         loops(code);
         methodLengths(code);
+        callDepths(code);
         members();
         Check.finish("LanguageTest");
     }
