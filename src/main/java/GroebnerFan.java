@@ -32,8 +32,12 @@ public final class GroebnerFan {
     private static final int MAX_TERMS = MAX_POINTS + 1;
     /** Five corners would need columns of four different heights, that is ten standard monomials. */
     private static final int MAX_CORNERS = 4;
-    /** Walls are different fractions of numbers from 1 to 8, and there are 43 of these. */
-    private static final int MAX_CONES = 44;
+    /**
+     * Where a corner x^a y^b and x^c y^d give the wall (a - c) / (d - b), the d - b monomials from
+     * x^c y^(b+1) to x^c y^d and the a - c from x^c y^b to x^(a-1) y^b are standard. So numerator and
+     * denominator add up to at most 8, and just 21 positive fractions in lowest terms do that.
+     */
+    private static final int MAX_CONES = 22;
     private static final int MAX_INPUT = 60;
     /** Each number but the last takes a digit and a sign behind it. */
     private static final int MAX_NUMBERS = MAX_INPUT / 2;
@@ -1095,8 +1099,14 @@ public final class GroebnerFan {
     private static final class Fan {
         /** 0 while the cones are not known. */
         int size = 0;
-        /** Made when they are needed first, and then used again for other points. */
+        /** Used again for other points; those from size on are out of use. */
         private final ReducedBasis[] cones = new ReducedBasis[MAX_CONES];
+
+        Fan() {
+            for (int k = 0; k < MAX_CONES; k++) {
+                cones[k] = new ReducedBasis();
+            }
+        }
 
         void forget() {
             size = 0;
@@ -1112,9 +1122,6 @@ public final class GroebnerFan {
             }
             order.choose(1, 0, TIE_Y);
             for (int k = 0; k < MAX_CONES; k++) {
-                if (cones[k] == null) {
-                    cones[k] = new ReducedBasis();
-                }
                 ReducedBasis cone = cones[k];
                 cone.compute(order, elimination);
                 size = k + 1;

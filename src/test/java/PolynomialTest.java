@@ -132,7 +132,7 @@ public final class PolynomialTest {
         // y = x^2 and x^3 = 5 x^2 + 3 x there
         Check.due("34: x y for cone 2", fan.reduceToNormalForm(2), 2);
         Check.due("34: x y for cone 2", Fans.polynomial(fan), "3x1y0 5x2y0");
-        for (int cone : new int[] {-1, 3, 44, Integer.MAX_VALUE, Integer.MIN_VALUE}) {
+        for (int cone : new int[] {-1, 3, 22, Integer.MAX_VALUE, Integer.MIN_VALUE}) {
             Check.due("34: cone " + cone, fan.reduceToNormalForm(cone), NO);
         }
         Check.due("34: refusals change nothing", Fans.polynomial(fan), "3x1y0 5x2y0");

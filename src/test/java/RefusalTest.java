@@ -133,7 +133,7 @@ public final class RefusalTest {
     }
 
     private void refuseCones() {
-        for (int bad : new int[] {LEAST, -1, cones, 44, GREATEST}) {
+        for (int bad : new int[] {LEAST, -1, cones, 22, GREATEST}) {
             refuse("wallNumerator(" + bad + ")", fan -> fan.wallNumerator(bad), NO);
             refuse("wallDenominator(" + bad + ")", fan -> fan.wallDenominator(bad), NO);
             refuse("coneHeight(" + bad + ", 0)", fan -> fan.coneHeight(bad, 0), NO);

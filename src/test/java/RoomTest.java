@@ -1,6 +1,7 @@
 import java.lang.reflect.Array;
 import java.lang.reflect.Field;
 import java.lang.reflect.Modifier;
+import java.math.BigInteger;
 import java.util.ArrayDeque;
 import java.util.Collections;
 import java.util.Deque;
@@ -9,7 +10,8 @@ import java.util.Set;
 
 /**
  * The room of a run: some 600,000 objects and arrays, 7.3 million fields and elements. An object's
- * own room is counted, with the most cones that were found, and calls may not make it grow.
+ * own room is counted, and calls may not make it grow; its rows for cones are enough for the walls of
+ * points by lot.
  */
 public final class RoomTest {
     private static final int CALLS = 512;
@@ -75,9 +77,28 @@ public final class RoomTest {
                 lot = lot * 6364136223846793005L + 1442695040888963407L;
                 fan.addPoint((int) (lot >>> 33) % 29, (int) (lot >>> 45) % 29);
             }
+            dueSmallWalls(fan);
             best = fan.coneCount() > best.coneCount() ? fan : best;
         }
         return best;
+    }
+
+    /** The class has rows for 22 cones, as 21 fractions are made of numbers that add up to 8 or less. */
+    private static void dueSmallWalls(GroebnerFan fan) {
+        for (int cone = 0; cone + 1 < fan.coneCount(); cone++) {
+            int sum = fan.wallNumerator(cone) + fan.wallDenominator(cone);
+            Check.due("numbers of a wall that add up to 8 or less", sum <= 8 ? 1 : 0, 1);
+        }
+    }
+
+    private static int fractionsUpTo(int sum) {
+        int count = 0;
+        for (int top = 1; top < sum; top++) {
+            for (int bottom = 1; top + bottom <= sum; bottom++) {
+                count += BigInteger.valueOf(top).gcd(BigInteger.valueOf(bottom)).intValue() == 1 ? 1 : 0;
+            }
+        }
+        return count;
     }
 
     private static void useAll(GroebnerFan fan) {
@@ -101,6 +122,7 @@ public final class RoomTest {
     }
 
     public static void main(String[] args) throws IllegalAccessException {
+        Check.due("walls that can be", fractionsUpTo(8), 21);
         GroebnerFan fan = manyCones();
         int most = fan.coneCount();
         useAll(fan);
